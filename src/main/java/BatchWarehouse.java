@@ -1064,7 +1064,7 @@ public final class BatchWarehouse {
         private int allUnitsAllocated(int reservation) {
             int units = 0;
             for (int batch = 0; batch < batches; batch++) {
-                units += allocatedUnits(reservation, batch);
+                units += allocations.get(reservation * MAX_BATCHES + batch);
             }
             return units;
         }
