@@ -97,6 +97,9 @@ public final class ForecastTest {
         x.reserve(1, 100, 9);
         Check.due("but not before they expire", 0, () -> x.wasteWithDemand(1, 0, 201));
         Check.due("all of it later", 100, () -> x.wasteWithDemand(1, 999, 202));
+        BatchWarehouse one = new BatchWarehouse();
+        one.reserve(0, 1, 3);
+        Check.due("one reserved unit is enough", -1, () -> one.demandWithoutWaste(0));
         BatchWarehouse y = Check.loaded("warehouse;product z 1;batch z 5 364 1;");
         y.reserve(0, 5, 0);
         Check.due("reserved beyond the year", 0, () -> y.demandWithoutWaste(0));

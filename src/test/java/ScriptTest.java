@@ -41,6 +41,8 @@ public final class ScriptTest {
         wrongAt("?milk;");
         wrongAt("?warehouse;");
         wrongAt("?writeof;");
+        wrongAt("?xriteoff;");
+        wrongAt("?xays 1;");
         wrongAt("?writeoffs;");
         wrongAt("?writeofff;");
         wrongAt("writeoff?");

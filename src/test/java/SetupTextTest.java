@@ -42,6 +42,9 @@ public final class SetupTextTest {
         wrongAt("?5");
         wrongAt("?warehous;product a 1;");
         wrongAt("?warehousf;product a 1;");
+        wrongAt("?xarehouse;product a 1;");
+        wrongAt("warehouse;?xroduct a 1;");
+        wrongAt(HEAD + "?xatch a 1 1 1;");
         wrongAt("warehouse ?product a 1;");
         wrongAt("warehouse;?;product a 1;");
         wrongAt("warehouse;?batch a 1 1 1;");
