@@ -7,24 +7,37 @@ final class Check {
 
     private static int checks = 0;
     private static int wrong = 0;
+    private static String about = "";
 
     private Check() {
     }
 
+    /** What the next checks are about; told with each wrong answer. */
+    static void about(String subject) {
+        about = subject.isEmpty() ? "" : subject + ": ";
+    }
+
+    /** What the call answers, or what it throws. */
+    static Object outcome(Call call) {
+        try {
+            return call.answer();
+        } catch (RuntimeException e) {
+            return thrown(e.getClass());
+        }
+    }
+
+    static String thrown(Class<? extends RuntimeException> type) {
+        return "throws " + type.getName();
+    }
+
     /** The call must answer this. */
     static void due(String what, Object want, Call call) {
-        Object got;
-        try {
-            got = call.answer();
-        } catch (RuntimeException e) {
-            got = "throws " + e.getClass().getName();
-        }
-        note(what, want, got);
+        note(what, want, outcome(call));
     }
 
     /** The call must throw this very class: a class below it is what the machine throws. */
     static void fails(String what, Class<? extends RuntimeException> want, Call call) {
-        due(what, "throws " + want.getName(), call);
+        due(what, thrown(want), call);
     }
 
     static void outside(String what, Call call) {
@@ -43,8 +56,20 @@ final class Check {
         checks++;
         if (!want.equals(got)) {
             wrong++;
-            System.out.println("  " + what + ": answered " + got + ", due is " + want);
+            System.out.println("  " + about + what + ": answered " + got + ", due is " + want);
         }
+    }
+
+    /** Both must look the same; a wrong answer tells the first lines that differ. */
+    static void sameSight(String what, String want, String got) {
+        String[] wanted = want.split("\n", -1);
+        String[] seen = got.split("\n", -1);
+        int line = 0;
+        while (line < wanted.length - 1 && line < seen.length - 1 && wanted[line].equals(seen[line])) {
+            line++;
+        }
+        boolean same = want.equals(got);
+        note(what, same ? "the same" : "line " + line + ": " + wanted[line], same ? "the same" : "line " + line + ": " + seen[line]);
     }
 
     /** Prints the tally and ends with exit code 1 if an answer was wrong. */
