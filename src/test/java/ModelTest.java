@@ -51,6 +51,9 @@ public final class ModelTest {
         if (random.nextInt(3) > 0) {
             text(setup(), "load");
         }
+        if (random.nextInt(8) == 0) {
+            passToTheLastDays();
+        }
         while (agree && calls < CALLS - 80) {
             if (random.nextInt(3) == 0) {
                 String name = OFTEN[random.nextInt(OFTEN.length)];
@@ -63,6 +66,12 @@ public final class ModelTest {
             } else {
                 call(METHODS.get(random.nextInt(METHODS.size())));
             }
+        }
+    }
+
+    private void passToTheLastDays() throws Exception {
+        for (int i = 0; i < 10; i++) {
+            both(method("passDays"), new int[] {999});
         }
     }
 
